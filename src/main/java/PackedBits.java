@@ -176,7 +176,7 @@ public final class PackedBits {
 
     private void append(long x, int n) {
         for (int i = n - 1; i >= 0; i--) {
-            setBit(size, x >>> i & 1);
+            setBit(size, (x >>> i) & 1);
             size++;
         }
     }
@@ -191,13 +191,13 @@ public final class PackedBits {
 
     // A bit behind a cut is stale, so that 0 has to be written like 1.
     private void setBit(int i, long b) {
-        long mask = 1L << i % WORD_BITS;
+        long mask = 1L << (i % WORD_BITS);
         int w = i / WORD_BITS;
         words[w] = b == 1 ? words[w] | mask : words[w] & ~mask;
     }
 
     private long bit(int i) {
-        return words[i / WORD_BITS] >>> i % WORD_BITS & 1;
+        return (words[i / WORD_BITS] >>> (i % WORD_BITS)) & 1;
     }
 
     // The readers below only look: the PLACE moves when the whole call has succeeded.
@@ -254,7 +254,7 @@ public final class PackedBits {
         int width = bytes * BYTE_BITS;
         long n = bitsAt(at + lengthWidth(bytes), width);
         if (kind == WITH_SIGN) {
-            n = n << WORD_BITS - width >> WORD_BITS - width;
+            n = n << (WORD_BITS - width) >> (WORD_BITS - width);
         }
         if (bytesToHold(kind, n) != bytes) {
             throw new UnsupportedOperationException("the number has a shorter form");
