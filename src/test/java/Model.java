@@ -13,6 +13,12 @@ final class Model {
     private String row = "";
     private int place = 0;
 
+    static Model of(String bits) {
+        Model model = new Model();
+        model.row = bits;
+        return model;
+    }
+
     static String width(String bits, int n) {
         return "0".repeat(n - bits.length()) + bits;
     }
