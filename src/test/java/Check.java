@@ -21,9 +21,13 @@ final class Check {
     private Check() {
     }
 
-    /** The checks that follow hold this sentence of the document; a fault is told with it. */
-    static void holds(String where, String words) {
+    /**
+     * The checks that follow hold this sentence of the document; a fault is told with it. The words are
+     * the document's own, three dots for what is left out: DocumentTest looks them up. Answers the words.
+     */
+    static String holds(String where, String words) {
         sentence = where + ", \"" + words + "\": ";
+        return words;
     }
 
     static void due(String what, Object got, Object want) {

@@ -1,45 +1,67 @@
 import java.lang.reflect.Constructor;
+import java.lang.reflect.Executable;
 import java.lang.reflect.Field;
 import java.lang.reflect.Method;
 import java.lang.reflect.Modifier;
 import java.util.Set;
+import java.util.StringJoiner;
 import java.util.TreeSet;
 
 /** The public face of the document: every member with what it throws, and no other that is not private. */
 public final class FaceTest {
-    private static final String[] FACE = {
-        "public PackedBits()",
-        "public int PackedBits.put(long,int) throws IllegalArgumentException,IndexOutOfBoundsException",
-        "public int PackedBits.putRange(long,long,long) throws IllegalArgumentException,IndexOutOfBoundsException",
-        "public int PackedBits.putLength(int) throws IllegalArgumentException,IndexOutOfBoundsException",
-        "public int PackedBits.putNumber(int,long) throws IllegalArgumentException,IndexOutOfBoundsException",
-        "public int PackedBits.fill() throws IndexOutOfBoundsException",
-        "public long PackedBits.take(int) throws IllegalArgumentException,UnsupportedOperationException",
-        "public long PackedBits.takeRange(long,long) throws IllegalArgumentException,UnsupportedOperationException",
-        "public int PackedBits.takeLength() throws UnsupportedOperationException",
-        "public long PackedBits.takeNumber(int) throws IllegalArgumentException,UnsupportedOperationException",
-        "public int PackedBits.go(int) throws IllegalArgumentException",
-        "public boolean PackedBits.turn(int) throws IllegalArgumentException",
-        "public int PackedBits.cut(int) throws IllegalArgumentException",
-        "public int PackedBits.count(int) throws IllegalArgumentException",
-    };
 
     public static void main(String[] args) {
-        Check.due("the class", Modifier.toString(PackedBits.class.getModifiers()), "public final");
-        Check.due("the face", seen(), new TreeSet<>(Set.of(FACE)));
         privateNames();
         staticFields();
+        theFace();
         Check.end();
     }
 
-    private static Set<String> seen() {
+    private static void theFace() {
+        String face = Check.holds("The public face", "public final class PackedBits { public PackedBits(); "
+                + "public int put(long x, int n) throws IllegalArgumentException, IndexOutOfBoundsException; "
+                + "public int putRange(long low, long high, long n) "
+                + "throws IllegalArgumentException, IndexOutOfBoundsException; "
+                + "public int putLength(int n) throws IllegalArgumentException, IndexOutOfBoundsException; "
+                + "public int putNumber(int kind, long n) "
+                + "throws IllegalArgumentException, IndexOutOfBoundsException; "
+                + "public int fill() throws IndexOutOfBoundsException; "
+                + "public long take(int n) throws IllegalArgumentException, UnsupportedOperationException; "
+                + "public long takeRange(long low, long high) "
+                + "throws IllegalArgumentException, UnsupportedOperationException; "
+                + "public int takeLength() throws UnsupportedOperationException; "
+                + "public long takeNumber(int kind) throws IllegalArgumentException, UnsupportedOperationException; "
+                + "public int go(int p) throws IllegalArgumentException; "
+                + "public boolean turn(int i) throws IllegalArgumentException; "
+                + "public int cut(int n) throws IllegalArgumentException; "
+                + "public int count(int what) throws IllegalArgumentException; }");
+        Check.due("the class", theClass(), face.substring(0, face.indexOf('{')).trim());
+        Check.due("the members", members(), lines(face.substring(face.indexOf('{') + 1, face.indexOf('}'))));
+    }
+
+    private static String theClass() {
+        String modifiers = Modifier.toString(PackedBits.class.getModifiers());
+        boolean plain = PackedBits.class.getSuperclass() == Object.class && PackedBits.class.getInterfaces().length == 0;
+        return modifiers + " class " + PackedBits.class.getName() + (plain ? "" : " of another kind");
+    }
+
+    /** The names of the parameters cannot be seen, and so are left out. */
+    private static Set<String> lines(String face) {
+        Set<String> lines = new TreeSet<>();
+        for (String line : face.trim().split(";")) {
+            lines.add(line.trim().replaceAll("(int|long) \\w+([,)])", "$1$2"));
+        }
+        return lines;
+    }
+
+    private static Set<String> members() {
         Set<String> seen = new TreeSet<>();
         for (Constructor<?> c : PackedBits.class.getDeclaredConstructors()) {
-            seen.add(c.toString());
+            seen.add(line(c, c.getName()));
         }
         for (Method m : PackedBits.class.getDeclaredMethods()) {
             if (!Modifier.isPrivate(m.getModifiers())) {
-                seen.add(m.toString().replace("java.lang.", ""));
+                seen.add(line(m, m.getReturnType().getSimpleName() + " " + m.getName()));
             }
         }
         for (Field f : PackedBits.class.getDeclaredFields()) {
@@ -48,6 +70,19 @@ public final class FaceTest {
             }
         }
         return seen;
+    }
+
+    private static String line(Executable member, String name) {
+        String start = Modifier.toString(member.getModifiers()) + " " + name + "(";
+        StringJoiner parameters = new StringJoiner(", ", start, ")");
+        for (Class<?> type : member.getParameterTypes()) {
+            parameters.add(type.getSimpleName());
+        }
+        StringJoiner thrown = new StringJoiner(", ", " throws ", "").setEmptyValue("");
+        for (Class<?> type : member.getExceptionTypes()) {
+            thrown.add(type.getSimpleName());
+        }
+        return parameters.toString() + thrown;
     }
 
     private static void privateNames() {
@@ -59,14 +94,14 @@ public final class FaceTest {
         }
         for (Method m : PackedBits.class.getDeclaredMethods()) {
             boolean both = Modifier.isPrivate(m.getModifiers()) && names.contains(m.getName());
-            Check.due(m.getName() + " is private and bears a public name", both, false);
+            Check.due("LANGUAGE.md, rule 1: " + m.getName() + " is private and bears a public name", both, false);
         }
     }
 
     private static void staticFields() {
         for (Field f : PackedBits.class.getDeclaredFields()) {
             boolean changes = Modifier.isStatic(f.getModifiers()) && !Modifier.isFinal(f.getModifiers());
-            Check.due(f.getName() + " is static and not final", changes, false);
+            Check.due("LANGUAGE.md, rule 5: " + f.getName() + " is static and not final", changes, false);
         }
     }
 }

@@ -147,7 +147,7 @@ public final class ReadingEdgesTest {
     }
 
     private static void takeLengthNotSo() {
-        Check.holds("Terms", "below 128: a 0 and 7 bits; .. 6 bits k, 1 .. 4");
+        Check.holds("Terms", "below 128: a 0 and 7 bits; ... 6 bits k, 1 .. 4");
         Check.notSo("takeLength()", x -> x.takeLength(), "10" + "00000000000000");
         Check.notSo("takeLength()", x -> x.takeLength(), "10" + "00000001111111");
         Check.notSo("takeLength()", x -> x.takeLength(), "11" + "000000");
@@ -169,7 +169,7 @@ public final class ReadingEdgesTest {
     }
 
     private static void takeNumberMoreThan8Bytes() {
-        Check.holds("Promise 10", "(more than 8 bytes, .. is not written so)");
+        Check.holds("Promise 10", "(more than 8 bytes, ... is not written so)");
         String eight = "01".repeat(32);
         long n = Long.parseLong(eight, 2);
         for (int kind = 0; kind <= 2; kind++) {
@@ -206,7 +206,7 @@ public final class ReadingEdgesTest {
     }
 
     private static void takeNumberSmallAsNumber() {
-        Check.holds("Promise 10", "(.. or a SMALL below 64 as a number, is not written so)");
+        Check.holds("Promise 10", "or a SMALL below 64 as a number, is not written so)");
         for (int n = 0; n < 64; n++) {
             Check.notSo("takeNumber(2), " + n, x -> x.takeNumber(2), "1" + "00000001" + Check.text(n, 8));
         }
@@ -230,7 +230,7 @@ public final class ReadingEdgesTest {
     }
 
     private static void thePlaceStays() {
-        Check.holds("Terms", "UnsupportedOperationException (reading): .. and the PLACE stays");
+        Check.holds("Terms", "UnsupportedOperationException (reading): ... and the PLACE stays");
         PackedBits x = Check.of("101" + "11" + "000101" + "1" + "00000001" + "00111111");
         x.go(3);
         for (int i = 0; i < 3; i++) {

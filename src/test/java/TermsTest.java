@@ -320,7 +320,7 @@ public final class TermsTest {
 
     private static void argumentBeforeFull() {
         Check.holds("Terms", "What is thrown, in this order: IllegalArgumentException: a number out of range; "
-                + ".. IndexOutOfBoundsException (writing)");
+                + "... IndexOutOfBoundsException (writing)");
         for (int i = MOST - 1; i <= MOST; i++) {
             int bits = i;
             String behind = ", " + bits + " bits";
