@@ -20,7 +20,7 @@ public final class DocumentTest {
     private static final Pattern SIGNATURE = Pattern.compile("`([^`]+)`: ");
     private static final Pattern TEXTS = Pattern.compile("\"([^\"]*)\"");
     private static final Pattern QUOTE = Pattern.compile(
-            "Check\\.holds\\(\\s*\"([^\"]*)\",\\s*(\"[^\"]*\"(?:\\s*\\+\\s*\"[^\"]*\")*)\\);");
+            "Check\\.holds\\(\\s*\"([^\"]*)\",\\s*(\"[^\"]*\"(?:\\s*\\+\\s*\"[^\"]*\")*)\\)");
 
     // Whatever the class did, these would not be broken: there is nothing that a test could find.
     private static final String[][] FREE = {
@@ -125,7 +125,7 @@ public final class DocumentTest {
                 rest.append(held.get(name).get(i) ? ' ' : text.charAt(i));
             }
             // Marks between two quotes say nothing of their own.
-            String words = rest.toString().replaceAll("[;:,.]", " ").replaceAll("\\s+", " ").trim();
+            String words = rest.toString().replaceAll("[;:,.}]", " ").replaceAll("\\s+", " ").trim();
             Check.due(name + ": words that no test holds", words, "");
         });
     }

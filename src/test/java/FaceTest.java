@@ -7,8 +7,10 @@ import java.util.Set;
 import java.util.StringJoiner;
 import java.util.TreeSet;
 
-/** The public face of the document: every member with what it throws, and no other that is not private. */
+/** The public face of the document, line by line, and that no other member can be seen. */
 public final class FaceTest {
+    private static final Set<String> MEMBERS = members();
+    private static final Set<String> TOLD = new TreeSet<>();
 
     public static void main(String[] args) {
         privateNames();
@@ -18,40 +20,43 @@ public final class FaceTest {
     }
 
     private static void theFace() {
-        String face = Check.holds("The public face", "public final class PackedBits { public PackedBits(); "
-                + "public int put(long x, int n) throws IllegalArgumentException, IndexOutOfBoundsException; "
-                + "public int putRange(long low, long high, long n) "
-                + "throws IllegalArgumentException, IndexOutOfBoundsException; "
-                + "public int putLength(int n) throws IllegalArgumentException, IndexOutOfBoundsException; "
-                + "public int putNumber(int kind, long n) "
-                + "throws IllegalArgumentException, IndexOutOfBoundsException; "
-                + "public int fill() throws IndexOutOfBoundsException; "
-                + "public long take(int n) throws IllegalArgumentException, UnsupportedOperationException; "
-                + "public long takeRange(long low, long high) "
-                + "throws IllegalArgumentException, UnsupportedOperationException; "
-                + "public int takeLength() throws UnsupportedOperationException; "
-                + "public long takeNumber(int kind) throws IllegalArgumentException, UnsupportedOperationException; "
-                + "public int go(int p) throws IllegalArgumentException; "
-                + "public boolean turn(int i) throws IllegalArgumentException; "
-                + "public int cut(int n) throws IllegalArgumentException; "
-                + "public int count(int what) throws IllegalArgumentException; }");
-        Check.due("the class", theClass(), face.substring(0, face.indexOf('{')).trim());
-        Check.due("the members", members(), lines(face.substring(face.indexOf('{') + 1, face.indexOf('}'))));
+        declared(Check.holds("The public face", "public PackedBits();"));
+        declared(Check.holds("The public face",
+                "public int put(long x, int n) throws IllegalArgumentException, IndexOutOfBoundsException;"));
+        declared(Check.holds("The public face", "public int putRange(long low, long high, long n) "
+                + "throws IllegalArgumentException, IndexOutOfBoundsException;"));
+        declared(Check.holds("The public face",
+                "public int putLength(int n) throws IllegalArgumentException, IndexOutOfBoundsException;"));
+        declared(Check.holds("The public face",
+                "public int putNumber(int kind, long n) throws IllegalArgumentException, IndexOutOfBoundsException;"));
+        declared(Check.holds("The public face", "public int fill() throws IndexOutOfBoundsException;"));
+        declared(Check.holds("The public face",
+                "public long take(int n) throws IllegalArgumentException, UnsupportedOperationException;"));
+        declared(Check.holds("The public face", "public long takeRange(long low, long high) "
+                + "throws IllegalArgumentException, UnsupportedOperationException;"));
+        declared(Check.holds("The public face", "public int takeLength() throws UnsupportedOperationException;"));
+        declared(Check.holds("The public face",
+                "public long takeNumber(int kind) throws IllegalArgumentException, UnsupportedOperationException;"));
+        declared(Check.holds("The public face", "public int go(int p) throws IllegalArgumentException;"));
+        declared(Check.holds("The public face", "public boolean turn(int i) throws IllegalArgumentException;"));
+        declared(Check.holds("The public face", "public int cut(int n) throws IllegalArgumentException;"));
+        declared(Check.holds("The public face", "public int count(int what) throws IllegalArgumentException;"));
+        String start = Check.holds("The public face", "public final class PackedBits {");
+        Check.due("the class", theClass(), start);
+        Check.due("the members, and no other", MEMBERS, TOLD);
+    }
+
+    private static void declared(String line) {
+        // The names of the parameters cannot be seen, and so are left out.
+        String plain = line.replaceAll("(int|long) \\w+([,)])", "$1$2");
+        TOLD.add(plain);
+        Check.due("it is declared", MEMBERS.contains(plain), true);
     }
 
     private static String theClass() {
         String modifiers = Modifier.toString(PackedBits.class.getModifiers());
         boolean plain = PackedBits.class.getSuperclass() == Object.class && PackedBits.class.getInterfaces().length == 0;
-        return modifiers + " class " + PackedBits.class.getName() + (plain ? "" : " of another kind");
-    }
-
-    /** The names of the parameters cannot be seen, and so are left out. */
-    private static Set<String> lines(String face) {
-        Set<String> lines = new TreeSet<>();
-        for (String line : face.trim().split(";")) {
-            lines.add(line.trim().replaceAll("(int|long) \\w+([,)])", "$1$2"));
-        }
-        return lines;
+        return modifiers + " class " + PackedBits.class.getName() + (plain ? " {" : " of another kind");
     }
 
     private static Set<String> members() {
@@ -82,7 +87,7 @@ public final class FaceTest {
         for (Class<?> type : member.getExceptionTypes()) {
             thrown.add(type.getSimpleName());
         }
-        return parameters.toString() + thrown;
+        return parameters.toString() + thrown + ";";
     }
 
     private static void privateNames() {
